@@ -54,7 +54,6 @@ public final class CheatHeap {
     private int marked = 0;
     private final TableReader tableReader = new TableReader();
     private final RoundReader roundReader = new RoundReader();
-    private final Forecast forecast = new Forecast();
     private final Run run = new Run();
     private final Run trial = new Run();
     private boolean hasPlayed = false;
@@ -489,41 +488,41 @@ public final class CheatHeap {
         if (wrong != FINE) {
             return none(wrong);
         }
-        forecast.look(game, player, r);
-        return good(forecast.sum);
+        game.foresee(player, r);
+        return good(game.sumForeseen);
     }
 
     public int rid(int player) {
         if (!isPlayer(player)) {
             return none(NO_SUCH);
         }
-        forecast.look(game, player, TURNS_AHEAD);
-        return goodOrNotThere(forecast.ridBehind);
+        game.foresee(player, TURNS_AHEAD);
+        return goodOrNotThere(game.ridBehind);
     }
 
     public int lastKind(int player) {
         if (!isPlayer(player)) {
             return none(NO_SUCH);
         }
-        forecast.look(game, player, TURNS_AHEAD);
-        return goodOrNotThere(forecast.ridBehind == NONE ? NONE : forecast.latestKind);
+        game.foresee(player, TURNS_AHEAD);
+        return goodOrNotThere(game.ridBehind == NONE ? NONE : game.latestKind);
     }
 
     public int mustLie(int player) {
         if (!isPlayer(player)) {
             return none(NO_SUCH);
         }
-        forecast.look(game, player, TURNS_AHEAD);
-        return goodOrNotThere(forecast.firstLie);
+        game.foresee(player, TURNS_AHEAD);
+        return goodOrNotThere(game.firstLie);
     }
 
     public int soonest() {
         int found = NONE;
         int least = TURNS_AHEAD + 1;
         for (int p = 0; p < game.rules.players; p++) {
-            forecast.look(game, p, TURNS_AHEAD);
-            if (forecast.ridBehind != NONE && forecast.ridBehind < least) {
-                least = forecast.ridBehind;
+            game.foresee(p, TURNS_AHEAD);
+            if (game.ridBehind != NONE && game.ridBehind < least) {
+                least = game.ridBehind;
                 found = p;
             }
         }
@@ -1189,6 +1188,11 @@ public final class CheatHeap {
         boolean open = false;
         private final Row wants = new Row(MAX_KINDS);
         int wanted = 0;
+        private final Row rest = new Row(MAX_KINDS);
+        int sumForeseen = 0;
+        int ridBehind = NONE;
+        int latestKind = NONE;
+        int firstLie = NONE;
 
         void reset() {
             rules.reset();
@@ -1320,6 +1324,32 @@ public final class CheatHeap {
             return rules.kindAfter(kind, turnsAhead(player) + r * rules.players);
         }
 
+        // what a PLAYER lays in so many TURNS if all is LEFT and it never lies
+        void foresee(int player, int turns) {
+            int cards = hands.cards.get(player);
+            for (int k = 0; k < rules.kinds; k++) {
+                rest.set(k, hands.heldBy(player, k));
+            }
+            sumForeseen = 0;
+            ridBehind = cards == 0 ? 0 : NONE;
+            latestKind = NONE;
+            firstLie = NONE;
+            for (int r = 0; r < turns && ridBehind == NONE; r++) {
+                int falling = fallingKind(player, r);
+                int n = Math.min(rest.get(falling), rules.most);
+                rest.add(falling, -n);
+                sumForeseen += n;
+                if (n > 0) {
+                    latestKind = falling;
+                } else if (firstLie == NONE) {
+                    firstLie = r;
+                }
+                if (sumForeseen == cards) {
+                    ridBehind = r + 1;
+                }
+            }
+        }
+
         // only a LAYING with cards of another KIND can come back to who laid it
         int sixteenthsLeft(int t, int f, int d) {
             int behind = hands.cards.get(turn) - t - f;
@@ -1336,19 +1366,17 @@ public final class CheatHeap {
         static final int DOUBTS = 2;
         static final int STOP = 3;
         static final int LOOP = 4;
-        static final int WHEN = 5;
-        static final int END = 6;
-        static final int CARDS = 0;
-        static final int HEAP = 1;
-        static final int SHOWN = 2;
-        static final int WON = 3;
+        static final int WHEN_CARDS = 5;
+        static final int WHEN_HEAP = 6;
+        static final int WHEN_SHOWN = 7;
+        static final int WHEN_WON = 8;
+        static final int END = 9;
 
         boolean isThere = false;
         int steps = 0;
         int lines = 0;
         final Row action = new Row(MAX_LINES);
         final Row mate = new Row(MAX_LINES);
-        final Row test = new Row(MAX_LINES);
         final Row who = new Row(MAX_LINES);
         final Row comparison = new Row(MAX_LINES);
         final Row number = new Row(MAX_LINES);
@@ -1365,7 +1393,6 @@ public final class CheatHeap {
             lines = other.lines;
             action.copyFrom(other.action);
             mate.copyFrom(other.mate);
-            test.copyFrom(other.test);
             who.copyFrom(other.who);
             comparison.copyFrom(other.comparison);
             number.copyFrom(other.number);
@@ -1386,6 +1413,36 @@ public final class CheatHeap {
             }
             return sign == '>' ? value > bound : value == bound;
         }
+
+        static boolean isWhen(int action) {
+            return action >= WHEN_CARDS && action <= WHEN_WON;
+        }
+
+        static boolean hasName(int action) {
+            return action == LIES || action == DOUBTS || action == WHEN_CARDS || action == WHEN_SHOWN;
+        }
+
+        static boolean hasComparison(int action) {
+            return isWhen(action) && action != WHEN_WON;
+        }
+
+        // NONE if it has no NUMBER
+        static int highest(int action) {
+            switch (action) {
+                case LIES:
+                case DOUBTS:
+                    return SIXTEENTHS;
+                case LOOP:
+                    return 99;
+                case WHEN_CARDS:
+                case WHEN_HEAP:
+                    return MAX_CARDS;
+                case WHEN_SHOWN:
+                    return 999;
+                default:
+                    return NONE;
+            }
+        }
     }
 
     /** The TOKENS of a text, one after the other, and the first FAULT. */
@@ -1396,8 +1453,8 @@ public final class CheatHeap {
         static final int SIGN = 3;
         static final int NO_TOKEN = 4;
         static final int MAX_DIGITS = 4;
-        // each word between blanks, so that a NAME is looked for as a whole
-        static final String RESERVED = " kinds each law most player lies doubts hand of up down same turn when cards heap won shown loop end stop ";
+        // a blank behind each word
+        static final String RESERVED = "kinds each law most player lies doubts hand of up down same turn when cards heap won shown loop end stop ";
 
         private byte[] text = new byte[0];
         private int length = 0;
@@ -1432,7 +1489,10 @@ public final class CheatHeap {
             } else if (first >= '0' && first <= '9') {
                 end = endOfRun('0', '9');
                 type = size() > MAX_DIGITS ? NO_TOKEN : NUMBER;
-                value = type == NUMBER ? decimal() : 0;
+                value = 0;
+                for (int i = 0; i < MAX_DIGITS && i < size(); i++) {
+                    value = value * 10 + signAt(i) - '0';
+                }
             } else {
                 type = first == ';' || first == '<' || first == '>' || first == '=' ? SIGN : NO_TOKEN;
                 end = begin + 1;
@@ -1445,14 +1505,6 @@ public final class CheatHeap {
                 at++;
             }
             return at;
-        }
-
-        private int decimal() {
-            int sum = 0;
-            for (int i = 0; i < size(); i++) {
-                sum = sum * 10 + signAt(i) - '0';
-            }
-            return sum;
         }
 
         final int size() {
@@ -1473,12 +1525,11 @@ public final class CheatHeap {
         }
 
         final boolean isWord(String word) {
-            return type == WORD && size() == word.length() && standsIn(word, 0);
-        }
-
-        private boolean standsIn(String words, int at) {
-            for (int i = 0; i < size(); i++) {
-                if (at + i >= words.length() || words.charAt(at + i) != signAt(i)) {
+            if (type != WORD || size() != word.length()) {
+                return false;
+            }
+            for (int i = 0; i < word.length(); i++) {
+                if (word.charAt(i) != signAt(i)) {
                     return false;
                 }
             }
@@ -1486,10 +1537,16 @@ public final class CheatHeap {
         }
 
         private boolean isReserved() {
-            for (int at = 1; at + size() < RESERVED.length(); at++) {
-                boolean isWhole = RESERVED.charAt(at - 1) == ' ' && RESERVED.charAt(at + size()) == ' ';
-                if (isWhole && standsIn(RESERVED, at)) {
-                    return true;
+            int alike = 0;
+            for (int i = 0; i < RESERVED.length(); i++) {
+                char sign = RESERVED.charAt(i);
+                if (sign == ' ') {
+                    if (alike == size()) {
+                        return true;
+                    }
+                    alike = 0;
+                } else if (alike >= 0) {
+                    alike = sign == signAt(alike) ? alike + 1 : NONE;
                 }
             }
             return false;
@@ -1730,7 +1787,7 @@ public final class CheatHeap {
             if (script.steps >= Script.MAX_STEPS) {
                 return fails(6);
             }
-            boolean hasBody = action == Script.LOOP || action == Script.WHEN;
+            boolean hasBody = action == Script.LOOP || Script.isWhen(action);
             if (hasBody && depth >= MAX_DEPTH) {
                 return fails(7);
             }
@@ -1741,9 +1798,13 @@ public final class CheatHeap {
                 depth++;
             }
             advance();
-            return readRest(action, at, rules) && passSemicolon();
+            if (Script.isWhen(action) && !readTest(at)) {
+                return false;
+            }
+            return readOperands(at, rules) && passSemicolon();
         }
 
+        // which test a when has is told behind it
         private int actionHere() {
             if (isWord("turn")) {
                 return Script.TURN;
@@ -1760,97 +1821,47 @@ public final class CheatHeap {
             if (isWord("loop")) {
                 return Script.LOOP;
             }
-            return isWord("when") ? Script.WHEN : NONE;
+            return isWord("when") ? Script.WHEN_WON : NONE;
         }
 
-        private boolean readRest(int action, int at, Rules rules) {
-            switch (action) {
-                case Script.LIES:
-                case Script.DOUBTS:
-                    return readWho(at, rules) && readNumber(at, 0, SIXTEENTHS);
-                case Script.LOOP:
-                    return readNumber(at, 1, 99);
-                case Script.WHEN:
-                    return readTest(at, rules);
-                default:
-                    return true;
-            }
-        }
-
-        private boolean readTest(int at, Rules rules) {
+        private boolean readTest(int at) {
             if (isWord("cards")) {
-                script.test.set(at, Script.CARDS);
-                advance();
-                return readWho(at, rules) && readComparison(at) && readNumber(at, 0, MAX_CARDS);
-            }
-            if (isWord("heap")) {
-                script.test.set(at, Script.HEAP);
-                advance();
-                return readComparison(at) && readNumber(at, 0, MAX_CARDS);
-            }
-            if (isWord("shown")) {
-                script.test.set(at, Script.SHOWN);
-                advance();
-                return readWho(at, rules) && readComparison(at) && readNumber(at, 0, 999);
-            }
-            script.test.set(at, Script.WON);
-            return passWord("won");
-        }
-
-        private boolean readWho(int at, Rules rules) {
-            int player = passPlayer(rules);
-            script.who.set(at, player);
-            return player != NONE;
-        }
-
-        private boolean readComparison(int at) {
-            int sign = signAt(0);
-            if (type != SIGN || sign == ';') {
+                script.action.set(at, Script.WHEN_CARDS);
+            } else if (isWord("heap")) {
+                script.action.set(at, Script.WHEN_HEAP);
+            } else if (isWord("shown")) {
+                script.action.set(at, Script.WHEN_SHOWN);
+            } else if (!isWord("won")) {
                 return fails(2);
             }
-            script.comparison.set(at, sign);
             advance();
             return true;
         }
 
-        private boolean readNumber(int at, int low, int high) {
-            int number = passNumber(low, high);
+        private boolean readOperands(int at, Rules rules) {
+            int action = script.action.get(at);
+            if (Script.hasName(action)) {
+                int player = passPlayer(rules);
+                if (player == NONE) {
+                    return false;
+                }
+                script.who.set(at, player);
+            }
+            if (Script.hasComparison(action)) {
+                int sign = signAt(0);
+                if (type != SIGN || sign == ';') {
+                    return fails(2);
+                }
+                script.comparison.set(at, sign);
+                advance();
+            }
+            int highest = Script.highest(action);
+            if (highest == NONE) {
+                return true;
+            }
+            int number = passNumber(action == Script.LOOP ? 1 : 0, highest);
             script.number.set(at, number);
             return number != NONE;
-        }
-    }
-
-    /** What a PLAYER lays if all is LEFT and it never lies. */
-    private static final class Forecast {
-        private final Row rest = new Row(MAX_KINDS);
-        int sum = 0;
-        int ridBehind = NONE;
-        int latestKind = NONE;
-        int firstLie = NONE;
-
-        void look(Game game, int player, int turns) {
-            int cards = game.hands.cards.get(player);
-            for (int kind = 0; kind < MAX_KINDS; kind++) {
-                rest.set(kind, game.hands.heldBy(player, kind));
-            }
-            sum = 0;
-            ridBehind = cards == 0 ? 0 : NONE;
-            latestKind = NONE;
-            firstLie = NONE;
-            for (int r = 0; r < turns && ridBehind == NONE; r++) {
-                int kind = game.fallingKind(player, r);
-                int n = Math.min(rest.get(kind), game.rules.most);
-                rest.add(kind, -n);
-                sum += n;
-                if (n > 0) {
-                    latestKind = kind;
-                } else if (firstLie == NONE) {
-                    firstLie = r;
-                }
-                if (sum == cards) {
-                    ridBehind = r + 1;
-                }
-            }
         }
     }
 
@@ -1903,39 +1914,33 @@ public final class CheatHeap {
 
         private int behindStep(Game game, int at) {
             Script script = game.script;
+            Hands hands = game.hands;
+            int who = script.who.get(at);
             int number = script.number.get(at);
+            int behindBody = script.mate.get(at) + 1;
             switch (script.action.get(at)) {
                 case Script.TURN:
                     takeTurn(game);
                     return at + 1;
                 case Script.LIES:
-                    game.hands.lying.set(script.who.get(at), number);
+                    hands.lying.set(who, number);
                     return at + 1;
                 case Script.DOUBTS:
-                    game.hands.doubting.set(script.who.get(at), number);
+                    hands.doubting.set(who, number);
                     return at + 1;
                 case Script.LOOP:
                     timesLeft.set(at, number);
                     return at + 1;
-                case Script.WHEN:
-                    return holds(game, at) ? at + 1 : script.mate.get(at) + 1;
+                case Script.WHEN_CARDS:
+                    return script.meets(at, hands.cards.get(who)) ? at + 1 : behindBody;
+                case Script.WHEN_HEAP:
+                    return script.meets(at, game.pile.cards) ? at + 1 : behindBody;
+                case Script.WHEN_SHOWN:
+                    return script.meets(at, hands.shown.get(who)) ? at + 1 : behindBody;
+                case Script.WHEN_WON:
+                    return game.winner != NONE ? at + 1 : behindBody;
                 default:
                     return script.lines;
-            }
-        }
-
-        private static boolean holds(Game game, int at) {
-            Script script = game.script;
-            int who = script.who.get(at);
-            switch (script.test.get(at)) {
-                case Script.CARDS:
-                    return script.meets(at, game.hands.cards.get(who));
-                case Script.HEAP:
-                    return script.meets(at, game.pile.cards);
-                case Script.SHOWN:
-                    return script.meets(at, game.hands.shown.get(who));
-                default:
-                    return game.winner != NONE;
             }
         }
 
