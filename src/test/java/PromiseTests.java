@@ -23,6 +23,7 @@ public final class PromiseTests {
         faults();
         counts();
         layingsInTheHeap();
+        theGreatestHeap();
         copyHand();
         lay();
         leaveAndWin();
@@ -116,6 +117,7 @@ public final class PromiseTests {
         Checks.due(x, "read", x.read(3, 59), cut[3], 0);
         Checks.due(x, "a tray made anew", x.tray(3, 0, 60), true, 0);
         Checks.due(x, "all 0", x.read(3, 59), 0, 0);
+        Checks.due(x, "all 0", x.read(3, 0), 0, 0);
     }
 
     private static void pour() {
@@ -327,6 +329,15 @@ public final class PromiseTests {
 
     private static void faults() {
         CheatHeap x = Checks.withTable(TWO);
+        Checks.round(x, "loop 1;when won;");
+        Checks.due(x, "a text begins anew", Checks.round(x, "loop 1;loop 1;loop 1;end;end;end;"), 3, 0);
+        Checks.round(x, "loop 1;");
+        Checks.due(x, "an end without a beginning", Checks.round(x, "end;"), NONE, 10);
+        Checks.table(x, "kinds 2 each 1;law down;most 2;player a;hand a 1 of 0;go");
+        Checks.due(x, "a text begins anew", Checks.table(x, TWO + "law same;most 3;"), 2, 0);
+        Checks.table(x, TWO);
+        Checks.due(x, "most without", x.many(4), 4, 0);
+        Checks.due(x, "law without", x.many(3), 0, 0);
         Checks.due("no fault", x.fault(0), 0);
         Checks.due("no place", x.fault(1), NONE);
         Checks.due("others", x.fault(2), NONE);
@@ -424,10 +435,39 @@ public final class PromiseTests {
         Checks.due(x, "none true", x.sorts(0), 0, 0);
     }
 
+    private static void theGreatestHeap() {
+        StringBuilder table = new StringBuilder("kinds 10 each 8;most 1;player a;");
+        for (int kind = 0; kind < 10; kind++) {
+            table.append("hand a 8 of ").append(kind).append(';');
+        }
+        CheatHeap x = Checks.withTable(table.toString());
+        for (int i = 0; i < 80; i++) {
+            int kind = i * 3 / 24;
+            Checks.due(x, "lay", x.lay(kind, NONE, NONE, NONE), i + 1, 0);
+            Checks.due(x, "the latest", x.cardOf(i, 0), kind, 0);
+            x.leave();
+        }
+        Checks.due(x, "cards", x.many(7), 80, 0);
+        Checks.due(x, "layings", x.many(10), 80, 0);
+        Checks.due(x, "won", x.many(9), 0, 0);
+        int[] count = new int[10];
+        for (int k = 0; k < 80; k++) {
+            count[x.cardOf(k, 0)]++;
+            Checks.due(x, "said", x.laying(k, 1), k % 10, 0);
+            Checks.due(x, "sort", x.laying(k, 3), x.cardOf(k, 0) == k % 10 ? 0 : 2, 0);
+        }
+        for (int kind = 0; kind < 10; kind++) {
+            Checks.due("of each eight", count[kind], 8);
+            Checks.due(x, "of each eight", x.lies(kind), 8, 0);
+            Checks.due(x, "said", x.said(0, kind), 8, 0);
+        }
+    }
+
     private static void copyHand() {
         CheatHeap x = Checks.withTable(THREE);
         x.tray(0, 3, 6);
         x.tray(1, 0, 3);
+        x.tray(3, 0, 4);
         x.write(0, 4, 77);
         x.write(0, 1, 55);
         Checks.due(x, "no tray ahead of all", x.copyHand(3, 4), NONE, 1);
@@ -435,6 +475,8 @@ public final class PromiseTests {
         Checks.due(x, "no player ahead of places", x.copyHand(3, 1), NONE, 2);
         Checks.due(x, "too few places", x.copyHand(0, 1), NONE, 4);
         Checks.due(x, "copy", x.copyHand(0, 0), 4, 0);
+        Checks.due(x, "just places enough", x.copyHand(1, 3), 4, 0);
+        Checks.due("copied", x.read(3, 1), 2);
         long[] due = {2, 0, 1, 0, 77, 0};
         for (int i = 0; i < due.length; i++) {
             Checks.due("copied", x.read(0, i), due[i]);
@@ -720,6 +762,10 @@ public final class PromiseTests {
             Checks.due(x, "last kind", x.lastKind(p), last[p], 0);
             Checks.due(x, "must lie", x.mustLie(p), lie[p], lie[p] == NONE ? 8 : 0);
         }
+        Checks.due(x, "last kind behind another's", x.lastKind(0), 2, 0);
+        Checks.due(x, "must lie behind another's", x.mustLie(1), NONE, 8);
+        Checks.due(x, "must lie behind another's", x.mustLie(2), 1, 0);
+        Checks.due(x, "rid behind another's", x.rid(0), 3, 0);
         Checks.due(x, "soonest", x.soonest(), 1, 0);
         Checks.due(x, "no player", x.rid(3), NONE, 2);
         Checks.due(x, "no player", x.lastKind(-1), NONE, 2);
@@ -728,6 +774,7 @@ public final class PromiseTests {
         x = Checks.withTable("kinds 10 each 8;most 1;player a;hand a 6 of 9;");
         Checks.due(x, "rid in 60", x.rid(0), 60, 0);
         Checks.due(x, "last kind", x.lastKind(0), 9, 0);
+        Checks.due(x, "soonest", x.soonest(), 0, 0);
         x = Checks.withTable("kinds 10 each 8;most 1;player a;hand a 7 of 0;");
         Checks.due(x, "not in 60", x.rid(0), NONE, 8);
         Checks.due(x, "not in 60", x.lastKind(0), NONE, 8);
@@ -874,6 +921,7 @@ public final class PromiseTests {
     }
 
     private static void playedCounts() {
+        noDrawForLies();
         // none of the KIND: one other without a draw, of the KIND of which it has the most, the first of several
         CheatHeap x = Checks.withTable("kinds 4 each 8;player a;player b;player c;hand a 1 of 1;hand a 2 of 2;hand a 2 of 3;"
             + "hand b 1 of 0;hand c 1 of 0;");
@@ -910,6 +958,22 @@ public final class PromiseTests {
         Checks.due(x, "missed", x.played(0), 1, 0);
     }
 
+    // the first draw by seed 0, 2, is b's then
+    private static void noDrawForLies() {
+        String[] tables = {"kinds 2 each 4;player a lies 16;player b doubts 3;hand a 1 of 0;hand b 1 of 1;",
+            "kinds 2 each 4;most 1;player a lies 16;player b doubts 3;hand a 1 of 0;hand a 1 of 1;hand b 1 of 1;"};
+        for (String table : tables) {
+            CheatHeap x = Checks.withTable(table);
+            Checks.round(x, "turn;");
+            x.play(0);
+            Checks.due(x, "doubted", x.played(2), 1, 0);
+            x = Checks.withTable(table.replace("doubts 3", "doubts 2"));
+            Checks.round(x, "turn;");
+            x.play(0);
+            Checks.due(x, "not doubted", x.played(2), 0, 0);
+        }
+    }
+
     private static int steps(String table, String round) {
         CheatHeap x = Checks.withTable(table);
         Checks.round(x, round);
@@ -937,7 +1001,12 @@ public final class PromiseTests {
             Checks.due(test, steps(TWO, "when " + test + ";stop;end;turn;turn;"), 30);
         }
         CheatHeap x = Checks.withTable(TWO);
+        Checks.round(x, "loop 99;lies a 1;lies a 2;lies a 3;lies a 4;end;");
+        Checks.due(x, "cut", x.play(0), 300, 0);
+        Checks.due(x, "cut", x.played(4), 1, 0);
         Checks.round(x, "lies b 7; doubts a 9;");
+        Checks.due(x, "and not cut", x.play(0), 2, 0);
+        Checks.due(x, "and not cut", x.played(4), 0, 0);
         x.play(9999);
         Checks.due(x, "lies", x.player(1, 0), 7, 0);
         Checks.due(x, "doubts", x.player(0, 1), 9, 0);
