@@ -1,9 +1,13 @@
 import java.nio.charset.StandardCharsets;
+import java.util.ArrayList;
+import java.util.List;
 
 /** Counts what is as due, prints what is not, and brings texts onto the tape. */
 final class Checks {
     private static int passed = 0;
     private static int failed = 0;
+    private static Doc doc = null;
+    private static String sentence = "";
 
     private Checks() {
     }
@@ -15,7 +19,25 @@ final class Checks {
         }
         failed++;
         if (failed <= 50) {
-            System.out.println(what + " answered " + got + ", due is " + want);
+            System.out.println(sentence + what + " answered " + got + ", due is " + want);
+        }
+    }
+
+    /** The words of the document that the checks behind hold: of a promise by its number, or of the Terms (0). */
+    static void says(int section, String words) {
+        if (doc == null) {
+            doc = new Doc("../shared/DOC.md");
+        }
+        sentence = "";
+        due("the document says in " + section + ": " + words, doc.quote(section, words), true);
+        sentence = section + " \"" + words + "\": ";
+    }
+
+    /** Each word of the document stands in a sentence that a test has quoted. */
+    static void allIsQuoted() {
+        sentence = "";
+        for (String words : doc.unquoted()) {
+            due("a test holds " + words, false, true);
         }
     }
 
@@ -71,6 +93,30 @@ final class Checks {
     static int round(CheatHeap x, String text) {
         feed(x, text);
         return x.round(text.length());
+    }
+
+    /** What can be told of the state; only calls that change no more than STATUS and the FRACTION, which comes first. */
+    static long[] look(CheatHeap x) {
+        List<Long> all = new ArrayList<>();
+        all.add(x.top());
+        all.add(x.bottom());
+        for (int i = -1; i < 12; i++) {
+            all.add((long) x.many(i));
+            all.add((long) x.played(i));
+            all.add((long) x.fault(i));
+            for (int k = 0; k < 10; k++) {
+                all.add((long) x.player(i, k));
+                all.add((long) x.hand(i, k));
+                all.add((long) x.laying(i, k));
+                all.add((long) x.cardOf(i, k));
+                all.add(x.read(i, k));
+            }
+        }
+        long[] told = new long[all.size()];
+        for (int i = 0; i < told.length; i++) {
+            told[i] = all.get(i);
+        }
+        return told;
     }
 
     /** A new object with this TABLE. */

@@ -70,7 +70,7 @@ public final class FuzzTests {
                 args[i] = number();
             }
         }
-        long[] before = random.nextInt(3) == 0 ? look(x) : null;
+        long[] before = random.nextInt(3) == 0 ? Checks.look(x) : null;
         String what = m.getName() + Arrays.toString(args);
         Object got = m.invoke(x, args);
         boolean hasStatus = !List.of("status", "top", "bottom", "fault", "feed").contains(m.getName());
@@ -80,31 +80,7 @@ public final class FuzzTests {
             Checks.due("NONE or false of " + what, got instanceof Boolean b ? b : ((Number) got).longValue() != -1, false);
         }
         if (before != null && hasStatus && status != 0 && status != 10) {
-            Checks.due("nothing changed by " + what, Arrays.equals(before, look(x)), true);
+            Checks.due("nothing changed by " + what, Arrays.equals(before, Checks.look(x)), true);
         }
-    }
-
-    /** What can be told of the state; only calls that change no more than STATUS and the FRACTION, which comes first. */
-    private static long[] look(CheatHeap x) {
-        List<Long> all = new ArrayList<>();
-        all.add(x.top());
-        all.add(x.bottom());
-        for (int i = -1; i < 12; i++) {
-            all.add((long) x.many(i));
-            all.add((long) x.played(i));
-            all.add((long) x.fault(i));
-            for (int k = 0; k < 10; k++) {
-                all.add((long) x.player(i, k));
-                all.add((long) x.hand(i, k));
-                all.add((long) x.laying(i, k));
-                all.add((long) x.cardOf(i, k));
-                all.add(x.read(i, k));
-            }
-        }
-        long[] told = new long[all.size()];
-        for (int i = 0; i < told.length; i++) {
-            told[i] = all.get(i);
-        }
-        return told;
     }
 }

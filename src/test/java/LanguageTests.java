@@ -4,6 +4,7 @@ import com.sun.source.tree.CompilationUnitTree;
 import com.sun.source.tree.LineMap;
 import com.sun.source.tree.MethodInvocationTree;
 import com.sun.source.tree.MethodTree;
+import com.sun.source.tree.NewArrayTree;
 import com.sun.source.tree.NewClassTree;
 import com.sun.source.tree.Tree;
 import com.sun.source.tree.VariableTree;
@@ -218,8 +219,19 @@ public final class LanguageTests {
             ExecutableElement made = (ExecutableElement) trees.getElement(getCurrentPath());
             String owner = ((TypeElement) made.getEnclosingElement()).getQualifiedName().toString();
             Checks.due(where(tree) + "made: " + owner, owner.startsWith("CheatHeap"), true);
+            Checks.due(where(tree) + "made in a constructor", isConstructing(), true);
             call(made);
             return super.visitNewClass(tree, v);
+        }
+
+        @Override
+        public Void visitNewArray(NewArrayTree tree, Void v) {
+            Checks.due(where(tree) + "made in a constructor", isConstructing(), true);
+            return super.visitNewArray(tree, v);
+        }
+
+        private boolean isConstructing() {
+            return method == null || method.getKind() == ElementKind.CONSTRUCTOR;
         }
 
         @Override
